@@ -333,6 +333,9 @@ public final class ChangesTest {
         checks.same("vote", true, c.vote(9, 3));
         checks.same("house tone", 9, c.houseTone());
         checks.same("dissents", "0 1 0 1 ", dissents(c));
+        CricketCooperative eight = View.withTones(0, 1, 2, 3, 4, 5, 6, 7);
+        checks.same("eight members", true, eight.vote(3, 2));
+        checks.same("dissents", "1 0 0 0 0 0 1 1 ", dissents(eight));
     }
 
     private static void notCarried() {

@@ -84,6 +84,10 @@ public final class ProgramsTest {
         checks.same("quarters", 8, c.quarters());
         checks.same("run", 7, run(c, "beats 1;wind 0 1;wind 0 2;beats 2;beats 3;quarter;vote 0 0"));
         checks.same("beat", 16, c.beat());
+        CricketCooperative joined = new CricketCooperative();
+        checks.same("run", 3, run(joined, "join 5 3 2 7;join 6 4 3 9;wind 0 8"));
+        checks.same("line", "5%3+2^7~8$0", View.line(joined, joined.writeMember(0)));
+        checks.same("line", "6%4+3^9~0$0", View.line(joined, joined.writeMember(1)));
         String sixty = "beats 10;beats 10;beats 10;beats 10;beats 10;beats 1;quarter";
         checks.same("length", 60, sixty.length());
         checks.same("run", 7, run(c, sixty));

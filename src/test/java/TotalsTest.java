@@ -151,6 +151,7 @@ public final class TotalsTest {
         checks.same("one", 1.0f, View.withShares(3).powerShare(0));
         checks.same("no power", 0.0f, View.withShares(4, 5).powerShare(0));
         checks.same("three", 1.0f / 3.0f, View.withShares(4, 5, 6).powerShare(1));
+        checks.same("eight", 1.0f / 8.0f, View.withShares(1, 1, 1, 1, 1, 1, 1, 1).powerShare(7));
         int[] none = {-1, 3, 8, Integer.MIN_VALUE, Integer.MAX_VALUE};
         for (int member : none) {
             checks.throwsExactly(INDEX, "powerShare " + member, () -> c.powerShare(member));

@@ -58,14 +58,27 @@ public final class UndoTest {
         CricketCooperative d = busy();
         takesBack(d, "passBeats", () -> d.passBeats(60));
         takesBack(d, "endQuarter", d::endQuarter);
-        takesBack(d, "vote", () -> d.vote(11, 2));
+        takesBack(d, "vote", () -> d.vote(1, 0));
         View.type(d, "beats 9;quarter");
         takesBack(d, "run", d::run);
+        firstSpoiltBeat();
         CricketCooperative empty = new CricketCooperative();
         takesBack(empty, "addMember", () -> empty.addMember(5, 2, 1, 3));
         checks.same("members", 0, empty.memberCount());
         checks.same("addMember", 0, empty.addMember(6, 3, 2, 4));
         checks.same("line", "6%3+2^4~0$0", View.line(empty, empty.writeMember(0)));
+    }
+
+    private static void firstSpoiltBeat() {
+        CricketCooperative c = View.withTones(0, 6);
+        c.wind(0, 9);
+        c.wind(1, 9);
+        c.save();
+        c.restore();
+        takesBack(c, "a spoilt beat", () -> c.passBeats(2));
+        c.passBeats(2);
+        c.restore();
+        checks.same("spoilt beats", "", View.spoiltBeats(c));
     }
 
     private static void eightCalls() {
@@ -246,8 +259,8 @@ public final class UndoTest {
             d.addMember(4, 5, 3, 2);
             d.passBeats(33);
             d.endQuarter();
-            d.vote(1, 6);
-            d.vote(1, 3);
+            d.vote(1, 0);
+            checks.same("dissents", "2 0 1", d.dissents(0) + " " + d.dissents(1) + " " + d.dissents(2));
             checks.same("a change", false, saved.equals(View.of(d)));
             d.restore();
             checks.same("view", saved, View.of(d));
