@@ -189,7 +189,7 @@ public final class CricketCooperative {
     public int carriedTone(int tolerance) throws IllegalArgumentException, NoSuchElementException {
         refuse(state.faultOfMotion(0, tolerance));
         for (int tone = 0; tone < TONES; tone++) {
-            if (state.isCarried(tone, tolerance)) {
+            if (state.sharesFor(tone, tolerance) >= state.neededShares()) {
                 return tone;
             }
         }
@@ -462,8 +462,8 @@ public final class CricketCooperative {
     }
 
     private static int stepsBetween(int oneTone, int otherTone) {
-        int steps = Math.abs(oneTone - otherTone);
-        return Math.min(steps, TONES - steps);
+        int steps = oneTone < otherTone ? otherTone - oneTone : oneTone - otherTone;
+        return steps > WIDEST_INTERVAL ? TONES - steps : steps;
     }
 
     /** All that undo, save and restore concern; a change is called only where its fault is FINE. */
@@ -681,7 +681,7 @@ public final class CricketCooperative {
         }
 
         boolean decide(int motionTone, int tolerance) {
-            if (!isCarried(motionTone, tolerance)) {
+            if (sharesFor(motionTone, tolerance) < neededShares()) {
                 return false;
             }
             houseTone = motionTone;
@@ -691,10 +691,6 @@ public final class CricketCooperative {
                 }
             }
             return true;
-        }
-
-        boolean isCarried(int motionTone, int tolerance) {
-            return sharesFor(motionTone, tolerance) >= neededShares();
         }
 
         int sharesFor(int motionTone, int tolerance) {
