@@ -1,3 +1,4 @@
+import java.util.NoSuchElementException;
 import java.util.Objects;
 
 /** The tests of one program: each test is counted, and each of its answers that is wrong is told. */
@@ -5,6 +6,14 @@ final class Checks {
     interface Body {
         void run();
     }
+
+    static final Class<IndexOutOfBoundsException> INDEX = IndexOutOfBoundsException.class;
+    static final Class<IllegalArgumentException> ARGUMENT = IllegalArgumentException.class;
+    static final Class<IllegalStateException> STATE = IllegalStateException.class;
+    static final Class<NoSuchElementException> NO_SUCH = NoSuchElementException.class;
+    static final Class<ArithmeticException> ARITHMETIC = ArithmeticException.class;
+    static final Class<UnsupportedOperationException> UNSUPPORTED =
+            UnsupportedOperationException.class;
 
     private int passed = 0;
     private int failed = 0;
@@ -46,6 +55,18 @@ final class Checks {
         String before = View.of(c);
         throwsExactly(due, what, body);
         same("the state after " + what, before, View.of(c));
+    }
+
+    interface CallWith {
+        void on(int number);
+    }
+
+    /** Each of the numbers must be refused, and leave all as it was. */
+    void refusesEach(Class<? extends RuntimeException> due, CricketCooperative c, String what,
+            int[] numbers, CallWith call) {
+        for (int number : numbers) {
+            refuses(due, c, what + " " + number, () -> call.on(number));
+        }
     }
 
     void end() {
