@@ -15,6 +15,10 @@ final class Checks {
     static final Class<UnsupportedOperationException> UNSUPPORTED =
             UnsupportedOperationException.class;
 
+    /** The last two would be in range, and be member 0, for a class that cut their upper bits off. */
+    static final int[] FAR = {Integer.MIN_VALUE, Integer.MAX_VALUE, 256 + 1, 65536 + 1};
+    static final int[] NOBODY = {Integer.MIN_VALUE, Integer.MAX_VALUE, 256, 65536};
+
     private int passed = 0;
     private int failed = 0;
     private int wrong = 0;

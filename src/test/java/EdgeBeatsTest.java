@@ -1,8 +1,6 @@
 /** The boundary cases of promises 6 and 17 to 21, a test for each sentence: tones and beats. */
 public final class EdgeBeatsTest {
     private static final Checks checks = new Checks();
-    private static final int[] FAR = {Integer.MIN_VALUE, Integer.MAX_VALUE, 256 + 1, 65536 + 1};
-    private static final int[] NOBODY = {Integer.MIN_VALUE, Integer.MAX_VALUE, 256, 65536};
 
     public static void main(String[] args) {
         numberOfBeats();
@@ -45,7 +43,7 @@ public final class EdgeBeatsTest {
         checks.test("6: passBeats, 61 beats are too many", () -> checks.refuses(Checks.ARGUMENT, c,
                 "passBeats", () -> c.passBeats(61)));
         checks.test("6: passBeats, beats far out of range", () -> checks.refusesEach(Checks.ARGUMENT,
-                c, "beats", FAR, beats -> c.passBeats(beats)));
+                c, "beats", Checks.FAR, beats -> c.passBeats(beats)));
         checks.test("6: passBeats, 1 beat is enough", () -> {
             checks.same("passBeats", 0, c.passBeats(1));
             checks.same("beat", 1, c.beat());
@@ -325,13 +323,13 @@ public final class EdgeBeatsTest {
             checks.throwsExactly(Checks.INDEX, "-1", () -> c.dueBeats(-1));
             checks.throwsExactly(Checks.INDEX, "m", () -> c.dueBeats(2));
             checks.throwsExactly(Checks.INDEX, "without members", () -> empty.dueBeats(0));
-            checks.refusesEach(Checks.INDEX, c, "member", NOBODY, member -> c.dueBeats(member));
+            checks.refusesEach(Checks.INDEX, c, "member", Checks.NOBODY, member -> c.dueBeats(member));
         });
         checks.test("18: dueBeatsByDoubling, no such member", () -> {
             checks.throwsExactly(Checks.INDEX, "-1", () -> c.dueBeatsByDoubling(-1));
             checks.throwsExactly(Checks.INDEX, "m", () -> c.dueBeatsByDoubling(2));
             checks.throwsExactly(Checks.INDEX, "without members", () -> empty.dueBeatsByDoubling(0));
-            checks.refusesEach(Checks.INDEX, c, "member", NOBODY,
+            checks.refusesEach(Checks.INDEX, c, "member", Checks.NOBODY,
                     member -> c.dueBeatsByDoubling(member));
         });
     }
@@ -368,12 +366,12 @@ public final class EdgeBeatsTest {
         checks.test("19: commonBeats, no such member for one", () -> {
             checks.throwsExactly(Checks.INDEX, "-1", () -> c.commonBeats(-1, 0));
             checks.throwsExactly(Checks.INDEX, "m", () -> c.commonBeats(2, 0));
-            checks.refusesEach(Checks.INDEX, c, "member", NOBODY, one -> c.commonBeats(one, 0));
+            checks.refusesEach(Checks.INDEX, c, "member", Checks.NOBODY, one -> c.commonBeats(one, 0));
         });
         checks.test("19: commonBeats, no such member for the other", () -> {
             checks.throwsExactly(Checks.INDEX, "-1", () -> c.commonBeats(0, -1));
             checks.throwsExactly(Checks.INDEX, "m", () -> c.commonBeats(0, 2));
-            checks.refusesEach(Checks.INDEX, c, "member", NOBODY, other -> c.commonBeats(0, other));
+            checks.refusesEach(Checks.INDEX, c, "member", Checks.NOBODY, other -> c.commonBeats(0, other));
         });
         checks.test("19: commonBeats, no such member without members", () -> {
             CricketCooperative empty = new CricketCooperative();
@@ -433,7 +431,7 @@ public final class EdgeBeatsTest {
         checks.test("21: earningsIn, 61 beats are too many", () -> checks.refuses(Checks.ARGUMENT, c,
                 "earningsIn", () -> c.earningsIn(61)));
         checks.test("21: earningsIn, beats far out of range", () -> checks.refusesEach(Checks.ARGUMENT,
-                c, "beats", FAR, beats -> c.earningsIn(beats)));
+                c, "beats", Checks.FAR, beats -> c.earningsIn(beats)));
         checks.test("21: earningsIn, 0 beats are not too few",
                 () -> checks.same("earningsIn", 0, c.earningsIn(0)));
         checks.test("21: earningsIn, 60 beats are not too many",

@@ -1,7 +1,6 @@
 /** The boundary cases of promises 7, 22 and 23, a test for each sentence: quarters and dividends. */
 public final class EdgeDividendsTest {
     private static final Checks checks = new Checks();
-    private static final int[] NOBODY = {Integer.MIN_VALUE, Integer.MAX_VALUE, 256, 65536};
 
     public static void main(String[] args) {
         quartersWithoutMembers();
@@ -154,13 +153,13 @@ public final class EdgeDividendsTest {
             checks.throwsExactly(Checks.INDEX, "-1", () -> c.dividend(-1));
             checks.throwsExactly(Checks.INDEX, "m", () -> c.dividend(2));
             checks.throwsExactly(Checks.INDEX, "without members", () -> empty.dividend(0));
-            checks.refusesEach(Checks.INDEX, c, "member", NOBODY, member -> c.dividend(member));
+            checks.refusesEach(Checks.INDEX, c, "member", Checks.NOBODY, member -> c.dividend(member));
         });
         checks.test("23: dividendByCounting, no such member", () -> {
             checks.throwsExactly(Checks.INDEX, "-1", () -> c.dividendByCounting(-1));
             checks.throwsExactly(Checks.INDEX, "m", () -> c.dividendByCounting(2));
             checks.throwsExactly(Checks.INDEX, "without members", () -> empty.dividendByCounting(0));
-            checks.refusesEach(Checks.INDEX, c, "member", NOBODY,
+            checks.refusesEach(Checks.INDEX, c, "member", Checks.NOBODY,
                     member -> c.dividendByCounting(member));
         });
     }

@@ -1,8 +1,6 @@
 /** The boundary cases of promises 1 to 5, a test for each sentence: a new object and its members. */
 public final class EdgeMembersTest {
     private static final Checks checks = new Checks();
-    private static final int[] FAR = {Integer.MIN_VALUE, Integer.MAX_VALUE, 256 + 1, 65536 + 1};
-    private static final int[] NOBODY = {Integer.MIN_VALUE, Integer.MAX_VALUE, 256, 65536};
 
     public static void main(String[] args) {
         newObject();
@@ -70,7 +68,7 @@ public final class EdgeMembersTest {
         checks.test("2: addMember, 51 shares are too many", () -> checks.refuses(Checks.ARGUMENT, c,
                 "addMember", () -> c.addMember(51, 2, 0, 0)));
         checks.test("2: addMember, shares far out of range", () -> checks.refusesEach(Checks.ARGUMENT,
-                c, "shares", FAR, shares -> c.addMember(shares, 2, 0, 0)));
+                c, "shares", Checks.FAR, shares -> c.addMember(shares, 2, 0, 0)));
         checks.test("2: addMember, 1 share is enough", () -> {
             checks.same("addMember", 0, c.addMember(1, 2, 0, 0));
             checks.same("shares", 1, c.shares(0));
@@ -92,7 +90,7 @@ public final class EdgeMembersTest {
         checks.test("2: addMember, a period of 13 is too long", () -> checks.refuses(Checks.ARGUMENT,
                 c, "addMember", () -> c.addMember(1, 13, 0, 0)));
         checks.test("2: addMember, periods far out of range", () -> checks.refusesEach(
-                Checks.ARGUMENT, c, "period", FAR, period -> c.addMember(1, period, 0, 0)));
+                Checks.ARGUMENT, c, "period", Checks.FAR, period -> c.addMember(1, period, 0, 0)));
         checks.test("2: addMember, a period of 2 is long enough", () -> {
             checks.same("addMember", 0, c.addMember(1, 2, 0, 0));
             checks.same("line", "1%2+0^0~0$0", View.line(c, c.writeMember(0)));
@@ -113,7 +111,7 @@ public final class EdgeMembersTest {
         checks.test("2: addMember, a phase that is the period is too great", () -> eachPeriod(
                 period -> refusedPhase(period, period)));
         checks.test("2: addMember, phases far out of range", () -> {
-            for (int phase : FAR) {
+            for (int phase : Checks.FAR) {
                 refusedPhase(12, phase);
             }
         });
@@ -145,7 +143,7 @@ public final class EdgeMembersTest {
         checks.test("2: addMember, a tone of 12 is too high", () -> checks.refuses(Checks.ARGUMENT, c,
                 "addMember", () -> c.addMember(1, 2, 0, 12)));
         checks.test("2: addMember, tones far out of range", () -> checks.refusesEach(Checks.ARGUMENT,
-                c, "tone", FAR, tone -> c.addMember(1, 2, 0, tone)));
+                c, "tone", Checks.FAR, tone -> c.addMember(1, 2, 0, tone)));
         checks.test("2: addMember, a tone of 0 is not too low", () -> {
             checks.same("addMember", 0, c.addMember(1, 2, 0, 0));
             checks.same("tone", 0, c.tone(0));
@@ -227,7 +225,7 @@ public final class EdgeMembersTest {
         checks.test("3: wind, no member without members", () -> checks.refuses(Checks.INDEX, empty,
                 "wind", () -> empty.wind(0, 1)));
         checks.test("3: wind, no members far away", () -> checks.refusesEach(Checks.INDEX, c, "member",
-                NOBODY, member -> c.wind(member, 1)));
+                Checks.NOBODY, member -> c.wind(member, 1)));
         checks.test("3: wind, the members 0 and m - 1", () -> {
             checks.same("wind", 4, c.wind(0, 4));
             checks.same("wind", 5, c.wind(1, 5));
@@ -243,7 +241,7 @@ public final class EdgeMembersTest {
         checks.test("3: wind, 61 turns are too many", () -> checks.refuses(Checks.ARGUMENT, c, "wind",
                 () -> c.wind(0, 61)));
         checks.test("3: wind, turns far out of range", () -> checks.refusesEach(Checks.ARGUMENT, c,
-                "turns", FAR, turns -> c.wind(0, turns)));
+                "turns", Checks.FAR, turns -> c.wind(0, turns)));
         checks.test("3: wind, 1 turn is enough", () -> checks.same("wind", 1, c.wind(0, 1)));
         checks.test("3: wind, 60 turns are not too many",
                 () -> checks.same("wind", 60, c.wind(1, 60)));
@@ -289,13 +287,13 @@ public final class EdgeMembersTest {
         checks.test("4: tune, no member without members", () -> checks.refuses(Checks.INDEX, empty,
                 "tune", () -> empty.tune(0, 0)));
         checks.test("4: tune, no members far away", () -> checks.refusesEach(Checks.INDEX, c, "member",
-                NOBODY, member -> c.tune(member, 0)));
+                Checks.NOBODY, member -> c.tune(member, 0)));
         checks.test("4: tune, the tone -1 is too low", () -> checks.refuses(Checks.ARGUMENT, c, "tune",
                 () -> c.tune(0, -1)));
         checks.test("4: tune, the tone 12 is too high", () -> checks.refuses(Checks.ARGUMENT, c,
                 "tune", () -> c.tune(0, 12)));
         checks.test("4: tune, tones far out of range", () -> checks.refusesEach(Checks.ARGUMENT, c,
-                "tone", FAR, tone -> c.tune(0, tone)));
+                "tone", Checks.FAR, tone -> c.tune(0, tone)));
         checks.test("4: tune, the tone 0 is not too low", () -> {
             checks.same("tune", 3, c.tune(0, 0));
             checks.same("tone", 0, c.tone(0));
@@ -320,7 +318,7 @@ public final class EdgeMembersTest {
         checks.test("5: buyShares, no member without members", () -> checks.refuses(Checks.INDEX,
                 empty, "buyShares", () -> empty.buyShares(0, 1)));
         checks.test("5: buyShares, no members far away", () -> checks.refusesEach(Checks.INDEX, c,
-                "member", NOBODY, member -> c.buyShares(member, 1)));
+                "member", Checks.NOBODY, member -> c.buyShares(member, 1)));
         checks.test("5: buyShares, the last member", () -> {
             CricketCooperative eight = View.withShares(1, 1, 1, 1, 1, 1, 1, 1);
             eight.wind(7, 40);
@@ -340,7 +338,7 @@ public final class EdgeMembersTest {
         checks.test("5: buyShares, 50 shares are too many", () -> checks.refuses(Checks.ARGUMENT, c,
                 "buyShares", () -> c.buyShares(0, 50)));
         checks.test("5: buyShares, shares far out of range", () -> checks.refusesEach(Checks.ARGUMENT,
-                c, "shares", FAR, shares -> c.buyShares(0, shares)));
+                c, "shares", Checks.FAR, shares -> c.buyShares(0, shares)));
         checks.test("5: buyShares, 49 shares are not too many", () -> {
             checks.same("buyShares", 50, c.buyShares(0, 49));
             checks.same("purse", 5, c.purse(0));

@@ -1,7 +1,6 @@
 /** The boundary cases of promises 47 and 48, a test for each sentence: the output line. */
 public final class EdgeOutputTest {
     private static final Checks checks = new Checks();
-    private static final int[] FAR = {Integer.MIN_VALUE, Integer.MAX_VALUE, 256, 65536};
 
     public static void main(String[] args) {
         lines();
@@ -51,7 +50,7 @@ public final class EdgeOutputTest {
             checks.refuses(Checks.INDEX, empty, "writeMember", () -> empty.writeMember(0));
         });
         checks.test("47: writeMember, no members far away", () -> checks.refusesEach(Checks.INDEX, c,
-                "member", FAR, member -> c.writeMember(member)));
+                "member", Checks.NOBODY, member -> c.writeMember(member)));
         checks.test("47, 48: a refused writeMember leaves an empty line",
                 () -> checks.throwsExactly(Checks.INDEX, "outputAt", () -> c.outputAt(0)));
         checks.test("47, 48: a refused writeMember leaves the line of another member", () -> {
@@ -98,7 +97,7 @@ public final class EdgeOutputTest {
         checks.test("48: outputAt, the length is not less than the length", () -> checks.refuses(
                 Checks.INDEX, c, "outputAt", () -> c.outputAt(12)));
         checks.test("48: outputAt, indices far away", () -> checks.refusesEach(Checks.INDEX, c, "index",
-                FAR, index -> c.outputAt(index)));
+                Checks.NOBODY, index -> c.outputAt(index)));
         checks.test("48: outputAt, the line is initially empty", () -> {
             checks.refuses(Checks.INDEX, fresh, "0", () -> fresh.outputAt(0));
             checks.refuses(Checks.INDEX, fresh, "-1", () -> fresh.outputAt(-1));

@@ -9,6 +9,7 @@ public final class EdgeProgramsTest {
         lengthsOfText();
         charactersOfText();
         shortestPrograms();
+        effectsOfCommands();
         longestPrograms();
         numbers();
         digits();
@@ -111,6 +112,36 @@ public final class EdgeProgramsTest {
                     View.line(c, c.writeMember(1)));
             checks.same("tone", 6, c.houseTone());
             checks.same("tolerance", "0 1", c.dissents(0) + " " + c.dissents(1));
+        });
+    }
+
+    /** The program before it has other arguments, which must not count any more. */
+    private static void doesAs(String text, Probe.Call call) {
+        checks.test("44: run does what the method does and no more: " + text, () -> {
+            CricketCooperative typed = Recipes.full();
+            CricketCooperative called = Recipes.full();
+            checks.same("run before", typed.run(), called.run());
+            checks.same("tune", run(typed, "tune 1 6"), run(called, "tune 1 6"));
+            checks.same("run", 1, run(typed, text));
+            call.on(called);
+            checks.same("the state", View.of(called), View.of(typed));
+        });
+    }
+
+    private static void effectsOfCommands() {
+        doesAs("join 9 8 7 6", c -> c.addMember(9, 8, 7, 6));
+        doesAs("wind 2 9", c -> c.wind(2, 9));
+        doesAs("tune 3 10", c -> c.tune(3, 10));
+        doesAs("buy 2 1", c -> c.buyShares(2, 1));
+        doesAs("beats 11", c -> c.passBeats(11));
+        doesAs("quarter", CricketCooperative::endQuarter);
+        doesAs("vote 4 3", c -> c.vote(4, 3));
+        checks.test("44: run, each command keeps its own arguments", () -> {
+            CricketCooperative c = new CricketCooperative();
+            checks.same("run", 4, run(c, "join 5 3 2 7;join 6 4 3 9;wind 1 8;join 4 11 10 1"));
+            checks.same("line", "5%3+2^7~0$0", View.line(c, c.writeMember(0)));
+            checks.same("line", "6%4+3^9~8$0", View.line(c, c.writeMember(1)));
+            checks.same("line", "4%11+10^1~0$0", View.line(c, c.writeMember(2)));
         });
     }
 

@@ -1,7 +1,6 @@
 /** The boundary cases of promises 9 to 16, a test for each sentence: queries about members. */
 public final class EdgeQueriesTest {
     private static final Checks checks = new Checks();
-    private static final int[] NOBODY = {Integer.MIN_VALUE, Integer.MAX_VALUE, 256, 65536};
 
     public static void main(String[] args) {
         counts();
@@ -56,7 +55,7 @@ public final class EdgeQueriesTest {
         checks.test(name + ", no ninth member", () -> checks.refuses(Checks.INDEX, eight, name,
                 () -> query.of(eight, 8)));
         checks.test(name + ", no members far away", () -> checks.refusesEach(Checks.INDEX, two, name,
-                NOBODY, member -> query.of(two, member)));
+                Checks.NOBODY, member -> query.of(two, member)));
     }
 
     private static void nobody() {
@@ -202,6 +201,6 @@ public final class EdgeQueriesTest {
             checks.refuses(Checks.NO_SUCH, empty, "memberAtRank", () -> empty.memberAtRank(0));
         });
         checks.test("16: memberAtRank, ranks far away", () -> checks.refusesEach(Checks.NO_SUCH, c,
-                "rank", NOBODY, rank -> c.memberAtRank(rank)));
+                "rank", Checks.NOBODY, rank -> c.memberAtRank(rank)));
     }
 }

@@ -1,7 +1,6 @@
 /** The boundary cases of promises 32 to 42, a test for each sentence: the totals. */
 public final class EdgeTotalsTest {
     private static final Checks checks = new Checks();
-    private static final int[] FAR = {Integer.MIN_VALUE, Integer.MAX_VALUE, 256, 65536};
 
     public static void main(String[] args) {
         beats();
@@ -186,7 +185,7 @@ public final class EdgeTotalsTest {
         checks.test("39: spoiltBeat, positions far away", () -> {
             CricketCooperative c = clashing();
             c.passBeats(7);
-            checks.refusesEach(Checks.INDEX, c, "position", FAR, position -> c.spoiltBeat(position));
+            checks.refusesEach(Checks.INDEX, c, "position", Checks.NOBODY, position -> c.spoiltBeat(position));
         });
         checks.test("39: spoiltBeat, undone beats are not kept", () -> {
             CricketCooperative c = clashing();
@@ -267,7 +266,7 @@ public final class EdgeTotalsTest {
             checks.refuses(Checks.INDEX, empty, "powerShare", () -> empty.powerShare(0));
         });
         checks.test("41: powerShare, no members far away", () -> checks.refusesEach(Checks.INDEX, c,
-                "member", FAR, member -> c.powerShare(member)));
+                "member", Checks.NOBODY, member -> c.powerShare(member)));
     }
 
     private static void invariants() {

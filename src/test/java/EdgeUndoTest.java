@@ -7,11 +7,13 @@ public final class EdgeUndoTest {
         numbersOfCalls();
         orderOfCalls();
         callsOfEachMethod();
+        eighthMember();
         callsWithoutDifference();
         callsThatAreNotUndone();
         refusedCalls();
         leftByUndo();
         saving();
+        leftBySave();
         nothingSaved();
         restoring();
         restoredParts();
@@ -137,6 +139,56 @@ public final class EdgeUndoTest {
         isUndone("endQuarter", CricketCooperative::endQuarter);
         isUndone("vote", c -> c.vote(5, 1));
         isUndone("run", CricketCooperative::run);
+    }
+
+    private static CricketCooperative sevenMembers() {
+        return View.withTones(0, 0, 0, 0, 0, 0, 0);
+    }
+
+    /** Five calls, after which each part of the eighth member holds something. */
+    private static void joinEighth(CricketCooperative c, int period, int tone) {
+        c.addMember(30 + period, period, period - 1, tone);
+        c.wind(7, 10 + period);
+        c.passBeats(60);
+        c.endQuarter();
+        c.vote(0, 1);
+    }
+
+    private static void eighthMember() {
+        checks.test("49: undo brings all of the eighth member back", () -> {
+            CricketCooperative c = sevenMembers();
+            joinEighth(c, 6, 4);
+            String before = View.of(c);
+            String line = View.line(c, c.writeMember(7));
+            checks.same("the eighth", "36%6+5^4~6$3 1", line + " " + c.dissents(7));
+            c.wind(7, 5);
+            c.tune(7, 8);
+            c.passBeats(60);
+            c.endQuarter();
+            c.buyShares(7, 1);
+            c.vote(0, 1);
+            for (int call = 0; call < 6; call++) {
+                c.undo();
+            }
+            checks.same("the state", before, View.of(c));
+            checks.same("line", line, View.line(c, c.writeMember(7)));
+        });
+        checks.test("51: restore brings all of the eighth member back", () -> {
+            CricketCooperative c = sevenMembers();
+            joinEighth(c, 6, 4);
+            String before = View.of(c);
+            String line = View.line(c, c.writeMember(7));
+            c.save();
+            for (int call = 0; call < 5; call++) {
+                c.undo();
+            }
+            checks.same("members", 7, c.memberCount());
+            joinEighth(c, 9, 3);
+            c.vote(0, 1);
+            c.restore();
+            checks.same("the state", before, View.of(c));
+            checks.same("line", line, View.line(c, c.writeMember(7)));
+        });
     }
 
     private static void countsAlone(String name, Probe.Call call) {
@@ -355,6 +407,34 @@ public final class EdgeUndoTest {
             c.vote(8, 2);
             c.restore();
             checks.same("the state", saved, View.of(c));
+        });
+    }
+
+    private static void leftBySave() {
+        checks.test("50, Terms, undo: save leaves the text buffer", () -> {
+            CricketCooperative c = new CricketCooperative();
+            View.type(c, "beats 7");
+            c.save();
+            checks.same("run", 1, c.run());
+            checks.same("beat", 7, c.beat());
+        });
+        checks.test("50, Terms, undo: save leaves the error position", () -> {
+            CricketCooperative c = new CricketCooperative();
+            Recipes.fails(c, "bux");
+            c.save();
+            checks.same("errorPosition", 2, c.errorPosition());
+        });
+        checks.test("50, Terms, undo: save leaves the failed command", () -> {
+            CricketCooperative c = new CricketCooperative();
+            Recipes.fails(c, "beats 1;beats 0");
+            c.save();
+            checks.same("failedCommand", 1, c.failedCommand());
+        });
+        checks.test("50, Terms, undo: save leaves the output line", () -> {
+            CricketCooperative c = View.withShares(7);
+            c.writeMember(0);
+            c.save();
+            checks.same("line", "7%2+0^0~0$0", View.line(c, 11));
         });
     }
 

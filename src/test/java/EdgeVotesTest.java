@@ -1,8 +1,6 @@
 /** The boundary cases of promises 8 and 24 to 31, a test for each sentence: votes and power. */
 public final class EdgeVotesTest {
     private static final Checks checks = new Checks();
-    private static final int[] FAR = {Integer.MIN_VALUE, Integer.MAX_VALUE, 256 + 1, 65536 + 1};
-    private static final int[] NOBODY = {Integer.MIN_VALUE, Integer.MAX_VALUE, 256, 65536};
 
     public static void main(String[] args) {
         motions();
@@ -31,13 +29,13 @@ public final class EdgeVotesTest {
         checks.test("8: vote, the tone 12 is too high", () -> checks.refuses(Checks.ARGUMENT, c,
                 "vote", () -> c.vote(12, 6)));
         checks.test("8: vote, tones far out of range", () -> checks.refusesEach(Checks.ARGUMENT, c,
-                "tone", FAR, tone -> c.vote(tone, 6)));
+                "tone", Checks.FAR, tone -> c.vote(tone, 6)));
         checks.test("8: vote, the tolerance -1 is too small", () -> checks.refuses(Checks.ARGUMENT, c,
                 "vote", () -> c.vote(3, -1)));
         checks.test("8: vote, the tolerance 7 is too great", () -> checks.refuses(Checks.ARGUMENT, c,
                 "vote", () -> c.vote(3, 7)));
         checks.test("8: vote, tolerances far out of range", () -> checks.refusesEach(Checks.ARGUMENT,
-                c, "tolerance", FAR, tolerance -> c.vote(3, tolerance)));
+                c, "tolerance", Checks.FAR, tolerance -> c.vote(3, tolerance)));
         checks.test("8: vote, the tone 11 is not too high, and a tolerance of 6 not too great", () -> {
             checks.same("vote", true, c.vote(11, 6));
             checks.same("house tone", 11, c.houseTone());
@@ -120,6 +118,13 @@ public final class EdgeVotesTest {
             }
             checks.same("dissents", "0 0 1 1 1 0 0 0 ", dissents.toString());
         });
+        checks.test("8, Terms, votes: the first and the eighth member may dissent", () -> {
+            CricketCooperative c = View.withTones(0, 6, 6, 6, 6, 6, 6, 0);
+            checks.same("vote", true, c.vote(6, 0));
+            checks.same("of the first", 1, c.dissents(0));
+            checks.same("of the second", 0, c.dissents(1));
+            checks.same("of the eighth", 1, c.dissents(7));
+        });
         checks.test("8, Terms, votes: a tolerance of 6 leaves nobody to dissent", () -> {
             CricketCooperative c = View.withTones(0, 6, 3);
             checks.same("vote", true, c.vote(0, 6));
@@ -157,13 +162,13 @@ public final class EdgeVotesTest {
         checks.test("24: sharesInFavour, the tone 12 is too high", () -> checks.refuses(
                 Checks.ARGUMENT, c, "sharesInFavour", () -> c.sharesInFavour(12, 6)));
         checks.test("24: sharesInFavour, tones far out of range", () -> checks.refusesEach(
-                Checks.ARGUMENT, c, "tone", FAR, tone -> c.sharesInFavour(tone, 6)));
+                Checks.ARGUMENT, c, "tone", Checks.FAR, tone -> c.sharesInFavour(tone, 6)));
         checks.test("24: sharesInFavour, the tolerance -1 is too small", () -> checks.refuses(
                 Checks.ARGUMENT, c, "sharesInFavour", () -> c.sharesInFavour(3, -1)));
         checks.test("24: sharesInFavour, the tolerance 7 is too great", () -> checks.refuses(
                 Checks.ARGUMENT, c, "sharesInFavour", () -> c.sharesInFavour(3, 7)));
         checks.test("24: sharesInFavour, tolerances far out of range", () -> checks.refusesEach(
-                Checks.ARGUMENT, c, "tolerance", FAR, tolerance -> c.sharesInFavour(3, tolerance)));
+                Checks.ARGUMENT, c, "tolerance", Checks.FAR, tolerance -> c.sharesInFavour(3, tolerance)));
     }
 
     private static void sharesInFavour() {
@@ -221,7 +226,7 @@ public final class EdgeVotesTest {
         checks.test("25: carriedTone, the tolerance 7 is too great", () -> checks.refuses(
                 Checks.ARGUMENT, c, "carriedTone", () -> c.carriedTone(7)));
         checks.test("25: carriedTone, tolerances far out of range", () -> checks.refusesEach(
-                Checks.ARGUMENT, c, "tolerance", FAR, tolerance -> c.carriedTone(tolerance)));
+                Checks.ARGUMENT, c, "tolerance", Checks.FAR, tolerance -> c.carriedTone(tolerance)));
         checks.test("25: carriedTone, half of the shares is no such tone", () -> {
             checks.refuses(Checks.NO_SUCH, c, "tolerance 0", () -> c.carriedTone(0));
             checks.refuses(Checks.NO_SUCH, c, "tolerance 2", () -> c.carriedTone(2));
@@ -282,6 +287,11 @@ public final class EdgeVotesTest {
             checks.same("of 1", 93, View.withShares(1, 1, 1, 1, 1, 1, 1, 1).winningGroupsByTable());
             checks.same("of 50", 93,
                     View.withShares(50, 50, 50, 50, 50, 50, 50, 50).winningGroupsByTable());
+        });
+        checks.test("28: winningGroupsByTable, the same answer each time", () -> {
+            CricketCooperative c = View.withShares(1, 1, 2, 3);
+            checks.same("at first", 8, c.winningGroupsByTable());
+            checks.same("once more", 8, c.winningGroupsByTable());
         });
         checks.test("28: winningGroupsByTable, fewer shares than the time before", () -> {
             CricketCooperative c = View.withShares(50, 50, 50);
@@ -356,6 +366,15 @@ public final class EdgeVotesTest {
             checks.same("of the first", 35, c.powerByTable(0));
             checks.same("of the eighth", 35, c.powerByTable(7));
         });
+        checks.test("30: powerByTable, the same answer each time, and for each member its own", () -> {
+            CricketCooperative c = View.withShares(1, 1, 2, 3);
+            for (int round = 0; round < 2; round++) {
+                checks.same("of the first", 2, c.powerByTable(0));
+                checks.same("of the second", 2, c.powerByTable(1));
+                checks.same("of the third", 2, c.powerByTable(2));
+                checks.same("of the fourth", 6, c.powerByTable(3));
+            }
+        });
         checks.test("30: powerByTable, a member with more shares than the quota", () -> {
             CricketCooperative c = View.withShares(1, 1, 1, 1, 1, 1, 1, 50);
             checks.same("of the eighth", 128, c.powerByTable(7));
@@ -370,13 +389,13 @@ public final class EdgeVotesTest {
             checks.throwsExactly(Checks.INDEX, "-1", () -> c.power(-1));
             checks.throwsExactly(Checks.INDEX, "m", () -> c.power(2));
             checks.throwsExactly(Checks.INDEX, "without members", () -> empty.power(0));
-            checks.refusesEach(Checks.INDEX, c, "member", NOBODY, member -> c.power(member));
+            checks.refusesEach(Checks.INDEX, c, "member", Checks.NOBODY, member -> c.power(member));
         });
         checks.test("30: powerByTable, no such member", () -> {
             checks.throwsExactly(Checks.INDEX, "-1", () -> c.powerByTable(-1));
             checks.throwsExactly(Checks.INDEX, "m", () -> c.powerByTable(2));
             checks.throwsExactly(Checks.INDEX, "without members", () -> empty.powerByTable(0));
-            checks.refusesEach(Checks.INDEX, c, "member", NOBODY, member -> c.powerByTable(member));
+            checks.refusesEach(Checks.INDEX, c, "member", Checks.NOBODY, member -> c.powerByTable(member));
         });
     }
 
